@@ -106,10 +106,7 @@ public final class StateFrames {
         if (m < 1 || m > in.count || n < 0 || !in.hasRoom((long) m * n)) {
             return false;
         }
-        int more = m * n;
-        for (int k = 0; k < more; k++) {
-            in.put(in.at(in.count - m));
-        }
+        in.putBack(m, m * n);
         return true;
     }
 
@@ -200,11 +197,13 @@ public final class StateFrames {
             return k >= 0 && k < count ? bytes[k] & 255 : 0;
         }
 
-        /** The number in n bytes, the lowest first. */
+        /** The number in n bytes, the lowest first; 0 when they are not all there. */
         long number(int from, int n) {
             long value = 0;
-            for (int k = n - 1; k >= 0; k--) {
-                value = value << 8 | at(from + k);
+            if (from >= 0 && from <= count - n) {
+                for (int k = from + n - 1; k >= from; k--) {
+                    value = value << 8 | bytes[k] & 255;
+                }
             }
             return value;
         }
@@ -226,6 +225,17 @@ public final class StateFrames {
             if (most > 0) {
                 Arrays.fill(bytes, count, count + most, (byte) b);
                 count += most;
+            }
+        }
+
+        /** Puts n bytes from a distance back, one by one: they may be those that it has just put. */
+        void putBack(int distance, int n) {
+            if (distance < 1 || distance > count) {
+                return;
+            }
+            int end = count + Math.min(n, bytes.length - count);
+            for (; count < end; count++) {
+                bytes[count] = bytes[count - distance];
             }
         }
 
@@ -807,12 +817,12 @@ public final class StateFrames {
             return distance <= soFar ? distance > window : soFar > window;
         }
 
-        /** Copies one by one, as a copy may run into the bytes that it makes. */
-        void copyBack(long distance, int n) {
-            int start = (int) (ofFrame() - distance);
-            for (int k = start; k < start + n; k++) {
-                bytes.put(k < 0 ? before.at(before.count + k) : bytes.at(frameStart + k));
-            }
+        /** Copies n bytes from a distance that is not too far. */
+        void copyBack(int distance, int n) {
+            int lacks = distance - ofFrame();
+            int ofBefore = lacks > 0 ? Math.min(lacks, n) : 0;
+            bytes.putPart(before, before.count - lacks, ofBefore);
+            bytes.putBack(distance, n - ofBefore);
         }
 
         /** THE WIDE SUM of the frame's content. */
@@ -1379,7 +1389,7 @@ public final class StateFrames {
                 return 7;
             }
             literals.moveTo(content.bytes, literalLength);
-            content.copyBack(distance, matchLength);
+            content.copyBack((int) distance, matchLength);
             return 0;
         }
 

@@ -60,6 +60,15 @@ public final class LiteralsTest {
         CHECK.dueFault("the byte of none lacks", Make.frame(Make.bytes(1)), 10, AT + 1);
         CHECK.dueFault("bytes lack, others behind",
             Make.join(Make.HEAD, Make.packed(false, Make.bytes(24, 1, 2)), Make.run(true, 1, 1)), 10, AT + 3);
+        byte[] other = Make.run(true, 255, 1023);
+        CHECK.dueFault("a number of two in one, others behind",
+            Make.join(Make.HEAD, Make.packed(false, Make.bytes(4)), other), 10, AT + 1);
+        CHECK.dueFault("a number of three in two, others behind",
+            Make.join(Make.HEAD, Make.packed(false, Make.bytes(12, 255)), other), 10, AT + 2);
+        CHECK.dueFault("a coded number of three in two, others behind",
+            Make.join(Make.HEAD, Make.packed(false, Make.bytes(3, 0)), other), 10, AT + 2);
+        CHECK.dueFault("the sequences lack, others behind",
+            Make.join(Make.HEAD, Make.packed(false, Make.bytes(8, 1)), other), 10, AT + 2);
         CHECK.dueFault("the sequences lack", Make.frame(Make.bytes(8, 1)), 10, AT + 2);
         CHECK.dueFault("1025, and they lack", Make.frame(Make.number(16L * 1025 + 12, 3)), 11, AT);
         CHECK.dueFault("1024, and they lack", Make.frame(Make.number(16L * 1024 + 12, 3)), 10, AT + 3);
@@ -166,6 +175,8 @@ public final class LiteralsTest {
         CHECK.dueContent("three weights", one(3, even.description(1, 0, 1), Make.stream(0, 2, 1, 2, 1, 1)), Make.bytes(0, 2, 3));
         Coder six = new Coder(6, 20, 30, -1, 0, 0, 0, 0, 10, -1, 0, -1, -1);
         CHECK.dueContent("order 6", one(2, six.description(1, 1, 2, 0, 0), Make.stream(1, 1, 0, 3)), Make.bytes(5, 0));
+        Coder eleven = new Coder(5, 15, 16, 0, 0, 0, 0, 0, 0, 0, 0, 0, -1);
+        CHECK.dueContent("a symbol 11", one(1, eleven.description(1, 1), Make.stream(0, 2)), Make.bytes(0));
         int[] most = new int[255];
         most[0] = 1;
         most[254] = 1;
@@ -189,7 +200,10 @@ public final class LiteralsTest {
         wrong("no bytes in it", Make.bytes(0, 2));
         wrong("more bytes than told", Make.bytes(3, 2, 2));
         wrong("fewer bytes than weights", Make.bytes(130, 0x11));
-        wrong("order 7", Make.bytes(2, 2, 1, 2));
+        wrong("order 7", new Coder(7, 64, 64).description(1, 1), Make.stream(0, 2));
+        wrong("a symbol 12 that is not used", new Coder(5, 15, 16, 0, 0, 0, 0, 0, 0, 0, 0, 0, 0, -1).description(1, 1),
+            Make.stream(0, 2));
+        wrong("T 12, else right", Make.bytes(127 + 12, 0xCB, 0xA9, 0x87, 0x65, 0x43, 0x21), Make.stream(0, 12));
         wrong("a share that ends", Make.bytes(1, 0, 2));
         wrong("a symbol 12", Make.bytes(20), new Coder(5, 3, 3, 3, 3, 3, 3, 3, 3, 3, 3, -1, 0, -1).told(), Make.times(255, 30));
         wrong("no points for all", Make.bytes(20), Make.upwards(0, 4, 1, 5, 3, 2, 3, 2, 3, 2, 3, 2, 3, 2), Make.times(255, 30));
@@ -220,6 +234,13 @@ public final class LiteralsTest {
         CHECK.dueFault("half a symbol", one(2, THREE, Make.stream(1, 1, 0, 1)), 14, at);
         CHECK.dueFault("8 bits left", one(1, BITS, Make.stream(0, 9)), 14, at);
         CHECK.dueFault("very many lack", Make.frame(Make.coded(2, 0, 1000, 3), BITS, Make.bytes(2), NONE), 14, at);
+        CHECK.dueFault("a description to the block's end",
+            Make.frame(Make.coded(2, 0, 1, 3), Make.bytes(129, 0, 2)), 12, AT + 3);
+        CHECK.dueFault("a stream to the block's end",
+            Make.frame(Make.coded(2, 0, 1, 3), BITS, Make.bytes(0)), 14, at);
+        CHECK.dueFault("the literals to the block's end",
+            Make.frame(Make.coded(2, 0, 1, 3), BITS, Make.bytes(2)), 10, at + 1);
+        CHECK.dueFault("three numbers alone", Make.frame(Make.coded(2, 1, 4, 8), BITS, Make.times(0, 6), NONE), 14, at + 6);
         byte[] bit = Make.stream(1, 1);
         byte[] none = new byte[0];
         byte[] zero = Make.bytes(0);

@@ -23,6 +23,7 @@ public final class SequencesTest {
         numbers();
         literalLengths();
         matchLengths();
+        longestMatches();
         distances();
         latest();
         latestGoOn();
@@ -120,6 +121,21 @@ public final class SequencesTest {
             CHECK.dueContent(what, all, Make.times(5, length + 1));
         } else {
             CHECK.dueFault(what, all, length + 1 > 131072 ? 20 : 7, stream);
+        }
+    }
+
+    /** The longest ones can only be told apart by how much a block may come to. */
+    private static void longestMatches() {
+        byte[] five = Make.bytes(40, 181, 47, 253, 0, 8 * 5 + 1);
+        byte[] one = Make.literals(Make.bytes(5));
+        int most = 32768 + 4096;
+        for (int over = 0; over < 2; over++) {
+            byte[] block = singles(one, 1, 1, 2, 51, 0, 2, most - 1 + over - 32771, 15);
+            CHECK.dueFault("32771 and more, over by " + over, Make.join(five, Make.packed(true, block)),
+                over == 0 ? 7 : 20, AT + 9);
+            block = singles(one, 1, 1, 2, 52, 0, 2, 131071 + over - 65539, 16);
+            CHECK.dueFault("65539 and more, over by " + over, Make.join(WIDE, Make.packed(true, block)),
+                over == 0 ? 7 : 20, AT + 9);
         }
     }
 
@@ -289,7 +305,8 @@ public final class SequencesTest {
             String what = "share " + kind + ": ";
             CHECK.dueFault(what + "no byte", Make.frame(before), 16, AT + 7);
             CHECK.dueFault(what + "ends", Make.frame(before, Make.bytes(0)), 16, AT + 7);
-            CHECK.dueFault(what + "order", Make.frame(before, Make.bytes(greatest[kind] - 4), rest), 16, AT + 7);
+            Coder big = new Coder(greatest[kind] + 1, 1 << greatest[kind], 1 << greatest[kind]);
+            CHECK.dueFault(what + "order", Make.frame(before, big.told(), rest), 16, AT + 7);
             int[] points = new int[lasts[kind] + 1];
             points[lasts[kind]] = 32;
             byte[] last = new Coder(5, points).told();
@@ -311,6 +328,9 @@ public final class SequencesTest {
         for (int n = 0; n < bytes.length; n++) {
             CHECK.dueFault("a share cut at " + n, Make.frame(abc, Make.bytes(1, 128 + 16 + 4), Make.first(bytes, n)), 16, AT + 7);
         }
+        byte[] just = new Coder(5, 10, 20, 2).told();
+        CHECK.dueFault("a share that ends with the block and with a byte",
+            Make.frame(abc, Make.bytes(1, 64 + 16 + 8, 3, 2), just), 17, AT + 10 + just.length);
         CHECK.dueFault("a share and no more", Make.frame(abc, Make.bytes(1, 128 + 16 + 4), bytes), 10, AT + 8 + bytes.length);
     }
 

@@ -654,15 +654,24 @@ public final class StateFrames {
         /** The distance that v means, which becomes the first. */
         long choose(long v, int literalLength) {
             long w = literalLength == 0 ? v + 1 : v;
-            if (v <= 3 && w == 1) {
-                return first;
+            if (v > 3) {
+                lead(v - 3);
+            } else if (w == 2) {
+                long was = first;
+                first = second;
+                second = was;
+            } else if (w == 3) {
+                lead(third);
+            } else if (w == 4) {
+                lead(first - 1);
             }
-            boolean swapped = v <= 3 && w == 2;
-            long chosen = v > 3 ? v - 3 : w == 2 ? second : w == 3 ? third : first - 1;
-            third = swapped ? third : second;
+            return first;
+        }
+
+        private void lead(long distance) {
+            third = second;
             second = first;
-            first = chosen;
-            return chosen;
+            first = distance;
         }
     }
 

@@ -1,6 +1,14 @@
-/** Counts the answers that are not as due, and puts bytes into an object under test. */
+/**
+ * Counts the answers that are not as due, and puts bytes into an object under test.
+ *
+ * <p>A test of a sentence of the document begins with its words, so that a failure tells which
+ * promise is broken.
+ */
 final class Check {
     private final String name;
+    private String sentence = null;
+    private int sentences = 0;
+    private int askedBefore = 0;
     private int asked = 0;
     private int wrong = 0;
 
@@ -8,12 +16,31 @@ final class Check {
         this.name = name;
     }
 
+    /** Begins the test of these words of the document. */
+    void sentence(String words) {
+        endSentence();
+        sentence = words;
+        sentences++;
+        askedBefore = asked;
+    }
+
+    /** A sentence that nothing is asked of would have no test. */
+    private void endSentence() {
+        if (sentence != null && asked == askedBefore) {
+            fail("nothing was asked");
+        }
+    }
+
     void due(String what, long got, long want) {
         asked++;
         if (got != want) {
-            wrong++;
-            System.out.println(name + ": " + what + " answered " + got + ", due is " + want);
+            fail(what + " answered " + got + ", due is " + want);
         }
+    }
+
+    private void fail(String how) {
+        wrong++;
+        System.out.println(name + ": " + (sentence == null ? "" : "\"" + sentence + "\": ") + how);
     }
 
     void due(String what, boolean got, boolean want) {
@@ -69,7 +96,9 @@ final class Check {
     }
 
     void end() {
-        System.out.println(name + ": " + (asked - wrong) + " of " + asked + " answers as due");
+        endSentence();
+        String of = sentences == 0 ? "" : sentences + " sentences, ";
+        System.out.println(name + ": " + of + asked + " answers, " + wrong + " not as due");
         if (wrong != 0) {
             System.exit(1);
         }

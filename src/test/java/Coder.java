@@ -1,4 +1,5 @@
 import java.util.ArrayList;
+import java.util.Arrays;
 import java.util.List;
 
 /** A share as a packer has it: its places, the states that lead through symbols, and its telling. */
@@ -20,6 +21,9 @@ final class Coder {
         if (order == 0) {
             symbols[0] = points[0];
             return;
+        }
+        if (Arrays.stream(points).map(Math::abs).sum() != all) {
+            throw new IllegalStateException("the masses of a test's share are not 2^L");
         }
         boolean[] taken = new boolean[all];
         int top = all;
@@ -50,6 +54,18 @@ final class Coder {
             }
             bases[place] = (x << bits[place]) - all;
         }
+    }
+
+    int symbolAt(int place) {
+        return symbols[place];
+    }
+
+    int bitsAt(int place) {
+        return bits[place];
+    }
+
+    int baseAt(int place) {
+        return bases[place];
     }
 
     /** States, one for each of the symbols, each of which leads to the next. */

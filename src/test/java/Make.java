@@ -5,8 +5,14 @@ import java.util.Arrays;
 
 /** Makes the parts of frames. */
 final class Make {
+    /** What frames begin with. */
+    static final byte[] MARK = bytes(40, 181, 47, 253);
+
     /** A frame's four bytes, a HEAD without anything, and a WINDOW of 1024. */
     static final byte[] HEAD = bytes(40, 181, 47, 253, 0, 0);
+
+    /** The same with a WINDOW of 2^20. */
+    static final byte[] WIDE = bytes(40, 181, 47, 253, 0, 80);
 
     /** Where the first block of a frame with that HEAD stands, and what is in it. */
     static final int BLOCK = 6;
@@ -52,6 +58,11 @@ final class Make {
     /** The first n bytes. */
     static byte[] first(byte[] all, int n) {
         return Arrays.copyOf(all, n);
+    }
+
+    /** What stands behind the first n bytes. */
+    static byte[] behind(byte[] all, int n) {
+        return Arrays.copyOfRange(all, n, all.length);
     }
 
     static byte[] number(long value, int n) {

@@ -177,6 +177,9 @@ public final class AboutTest {
         due("the second has a wrong ID before SIZE", Make.join(ABC_FRAME, Make.MARK, Make.bytes(33, 5, 9)), WINDOW, 1024);
         due("the second has a wrong ID behind it", Make.join(ABC_FRAME, Make.MARK, Make.bytes(1, 8, 5)), WINDOW, 2048);
         due("spare bytes behind it", Make.join(ABC_FRAME, SPARE), WINDOW, 1024);
+        due("the second ends behind it", Make.join(ABC_FRAME, Make.MARK, Make.bytes(0, 8)), WINDOW, 2048);
+        due("the second ends behind SIZE", Make.join(ABC_FRAME, Make.MARK, Make.bytes(32, 7)), WINDOW, 7);
+        due("the second ends behind SIZE of 8", Make.join(ABC_FRAME, Make.MARK, Make.bytes(224), Make.number(9, 8)), WINDOW, 9);
     }
 
     private static void noWindow() {

@@ -39,6 +39,7 @@ public final class CodesTest {
         sumIsNone();
         noPowerOfTwo();
         fewerThanTwoOnes();
+        behindAnotherOne();
         CHECK.end();
     }
 
@@ -317,14 +318,19 @@ public final class CodesTest {
 
     private static void fewerBitsThanTwoStates() {
         CHECK.sentence("It is WRONG if .. it has fewer bits than two states");
-        byte[] told = EVEN.told();
-        int one = EVEN.states(1)[0];
-        for (int bits = 0; bits < 10; bits++) {
-            byte[] stream = Make.stream(0, bits);
-            dueWrong(bits + " bits", Make.bytes(told.length + stream.length), told, stream, Make.bytes(2));
+        // If the bits that lack were taken for 0, these would be weights of 1, 1, and the codes right.
+        for (int order = 5; order <= 6; order++) {
+            byte[] told = new Coder(order, 0, 1 << order - 1, 1 << order - 1).told();
+            StateFrames x = new StateFrames();
+            byte[] just = Make.stream(0, 2 * order);
+            byte[] right = Inside.one(1, Make.bytes(told.length + just.length), told, just, Make.stream(1, 1));
+            CHECK.dueContent("just as many", x, right, Make.bytes(2));
+            for (int bits = 0; bits < 2 * order; bits++) {
+                byte[] stream = Make.stream(0, bits);
+                byte[] wrong = Inside.one(1, Make.bytes(told.length + stream.length), told, stream, Make.stream(1, 1));
+                CHECK.dueRead(bits + " bits of order " + order, x, wrong, 9, -12, AT);
+            }
         }
-        byte[] just = Make.stream(one, 5, one, 5);
-        CHECK.dueContent("just as many", Inside.one(1, Make.bytes(told.length + just.length), told, just, Make.stream(1, 1)), Make.bytes(2));
     }
 
     private static void sumIsNone() {
@@ -333,6 +339,31 @@ public final class CodesTest {
         dueWrong("two weights", Make.bytes(129, 0, 2));
         dueWrong("coded ones", EVEN.description(0, 0), Make.bytes(2));
         dueWrong("128 weights", Make.bytes(255), new byte[64], Make.bytes(2));
+    }
+
+    /** What an earlier description told must not be left in a later one. */
+    private static void behindAnotherOne() {
+        CHECK.sentence("a DESCRIPTION, whose codes are the CODES from now on (one behind another)");
+        byte[] none = Make.bytes(0);
+        int[] ones = new int[255];
+        Arrays.fill(ones, 1);
+        byte[] many = EVEN.description(ones);
+        byte[] coded = EVEN.description(1, 1);
+        byte[] plain = Make.bytes(129, 0x11);
+        byte[] eight = Make.stream(255, 8);
+        byte[] three = Make.stream(0, 2, 1, 2, 1, 1);
+        byte[] first = Make.packed(false, Make.coded(2, 0, 1, many.length + eight.length), many, eight, none);
+        for (byte[] later : new byte[][] {coded, plain}) {
+            byte[] second = Make.packed(false, Make.coded(2, 0, 3, later.length + three.length), later, three, none);
+            byte[] third = Make.packed(true, Make.coded(2, 0, 1, many.length + eight.length), many, eight, none);
+            CHECK.dueContent("behind that of all symbols", Make.join(Make.HEAD, first, second, third), Make.bytes(255, 0, 1, 2, 255));
+            CHECK.dueContent("twice", Make.join(Make.HEAD, first, second, second, third), Make.bytes(255, 0, 1, 2, 0, 1, 2, 255));
+        }
+        Coder share = new Coder(5, 2, 14, 0, 0, 0, 0, 0, 0, 0, 0, 8, 8);
+        byte[] other = share.description(1, 1);
+        byte[] second = Make.packed(false, Make.coded(2, 0, 3, other.length + three.length), other, three, none);
+        byte[] again = Make.packed(true, Make.coded(2, 0, 3, coded.length + three.length), coded, three, none);
+        CHECK.dueContent("behind a share of more weights", Make.join(Make.HEAD, second, again), Make.bytes(0, 1, 2, 0, 1, 2));
     }
 
     private static void noPowerOfTwo() {

@@ -162,6 +162,8 @@ public final class FrameTest {
         CHECK.dueContent("of a frame's own content", Make.join(Make.HEAD, LAST_ABC, frame(4, 0), LAST_ABC, sum), Make.text("abcabc"));
         CHECK.dueContent("of all its blocks", Make.join(frame(4, 0), Make.raw(false, Make.text("a")),
             Make.raw(false, Make.text("bc")), EMPTY, sum), ABC);
+        byte[] summed = Make.join(frame(4, 0), LAST_ABC, sum);
+        CHECK.dueContent("a frame behind it", Make.join(summed, summed, spare(80, 1, 1), summed), Make.text("abcabcabc"));
         CHECK.dueFault("none without SUMMED", Make.join(frame(0, 0), LAST_ABC, sum), 2, 12);
     }
 
@@ -303,6 +305,10 @@ public final class FrameTest {
             CHECK.dueFault("cut at " + n, Make.first(whole, n), 1, n);
         }
         CHECK.dueFault("one more than there are", spare(80, 11993, 11992), 1, 12000);
+        CHECK.dueFault("2^8", spare(80, 1 << 8, 0), 1, 8);
+        CHECK.dueFault("2^16", spare(80, 1 << 16, 0), 1, 8);
+        CHECK.dueFault("2^24", spare(80, 1 << 24, 0), 1, 8);
+        CHECK.dueFault("2^31, and nothing behind", spare(80, 1L << 31, 0), 1, 8);
         CHECK.dueFault("2^31 - 1", spare(80, Integer.MAX_VALUE, 1), 1, 9);
         CHECK.dueFault("2^31", spare(80, 1L << 31, 1), 1, 9);
         CHECK.dueFault("2^32 - 1", spare(80, -1, 1), 1, 9);

@@ -302,7 +302,7 @@ public final class LearnTest {
     private static void distanceAboveContent() {
         CHECK.sentence("-4 one of the three distances is .. above the bytes of content");
         for (int k = 0; k < 3; k++) {
-            for (int distance : new int[] {21, 256, 65536 + 1, 1 << 24, Integer.MIN_VALUE, -1}) {
+            for (int distance : new int[] {21, 256 + 1, 65536 + 1, (1 << 24) + 1, Integer.MIN_VALUE + 1, -1}) {
                 int[] d = withOne(k, distance);
                 dueLearn("distance " + k + " is " + distance, dictionary(d[0], d[1], d[2], WORDS), -4);
             }

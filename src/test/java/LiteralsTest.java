@@ -208,6 +208,8 @@ public final class LiteralsTest {
         CHECK.dueFault("none", Make.frame(Make.bytes(0)), 10, AT + 1);
         CHECK.dueFault("coded ones", Make.frame(Make.coded(2, 0, 1, 3), BITS, BIT), 10, AT + 6);
         CHECK.dueFault("a block behind", Make.join(Make.HEAD, Make.packed(false, Make.bytes(8, 1)), OTHER), 10, AT + 2);
+        CHECK.dueFault("a wrong description comes first", Make.frame(Make.coded(2, 0, 1, 3), Make.bytes(129, 0, 2)), 12, AT + 3);
+        CHECK.dueFault("a wrong stream comes first", Make.frame(Make.coded(2, 0, 1, 3), BITS, Make.bytes(0)), 14, AT + 5);
     }
 
     private static void aboveMost() {

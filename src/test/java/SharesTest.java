@@ -41,7 +41,9 @@ public final class SharesTest {
         nonesAboveLast();
         somethingLacks();
         bytesEnd();
+        behindAnotherOne();
         oneSymbol();
+        oneSymbolBehindAShare();
         symbolAboveLast();
         CHECK.end();
     }
@@ -377,11 +379,56 @@ public final class SharesTest {
             }
             dueEnds("another number of those that have none", kind, Make.upwards(0, 4, 2, 5, 1, 5, 3, 2));
             dueEnds("the one bit more", kind, Make.upwards(0, 4, 1, 5, 0, 2, 31, 5));
+            // 1 and 29, 1; -1 and 30: only 1 of 32 lacks then.
+            dueEnds("the last number", kind, Make.upwards(0, 4, 2, 5, 30, 5, 2, 2));
+            dueEnds("the one bit more of the last number", kind, Make.upwards(0, 4, 0, 5, 31, 6, 1, 1));
         }
         CHECK.dueFault("not within it: the next symbol lacks",
             Make.join(Make.HEAD, endsWith(LITERAL_LENGTHS, told)), 10, MODES + 1 + told.length);
         CHECK.dueFault("not within it: the stream lacks",
             Make.join(Make.HEAD, endsWith(MATCH_LENGTHS, told)), 17, MODES + 3 + told.length);
+    }
+
+    /** What an earlier share told must not be left in a later one. */
+    private static void behindAnotherOne() {
+        CHECK.sentence("2 a SHARE TOLD (one behind another)");
+        byte[] before = Inside.differing(600);
+        byte[] literals = Inside.differing(30);
+        Coder wide = new Coder(6, 10, 10, 10, 10, 10, 10, 3, -1);
+        Coder small = new Coder(5, 3, 28, -1);
+        for (int kind = 0; kind < 3; kind++) {
+            byte[] first = told(false, kind, wide, literals);
+            byte[] second = told(true, kind, small, literals);
+            byte[] due = Inside.model(Inside.model(before, literals, meant(kind, 2, 0), meant(kind, 2, 2)),
+                literals, meant(kind, 2, 2), meant(kind, 2, 2));
+            CHECK.dueContent("kind " + kind, Make.join(Make.HEAD, Make.raw(false, before), first, second), due);
+        }
+    }
+
+    /** A block of two sequences, of symbol 2 of a kind, which a share tells. */
+    private static byte[] told(boolean last, int kind, Coder share, byte[] literals) {
+        int[] states = share.states(2, 2);
+        List<Long> pairs = new ArrayList<>();
+        share.addFirst(pairs, states[0]);
+        Coder.add(pairs, 0, 2);
+        share.addStep(pairs, states[0], states[1]);
+        Coder.add(pairs, 0, 2);
+        return Make.packed(last, Make.literals(literals), Make.bytes(2), tables(kind, 2, share.told()), Coder.stream(pairs));
+    }
+
+    private static void oneSymbolBehindAShare() {
+        CHECK.sentence("1 a byte, its symbol, in one place that takes no bits (L 0) (behind a SHARE TOLD)");
+        byte[] before = Inside.differing(600);
+        byte[] literals = Inside.differing(30);
+        Coder share = new Coder(5, 8, 8, 8, 8);
+        for (int kind = 0; kind < 3; kind++) {
+            byte[] first = told(false, kind, share, literals);
+            byte[] single = Make.packed(true, Make.literals(literals), Make.bytes(3, Inside.SINGLES, 1, 2, 0),
+                Make.stream(0, 2, 0, 2, 0, 2));
+            byte[] due = Inside.model(before, literals, meant(kind, 2, 0), meant(kind, 2, 2));
+            due = Inside.model(due, literals, new int[] {1, 1, 3}, new int[] {1, 1, 3}, new int[] {1, 1, 3});
+            CHECK.dueContent("kind " + kind, Make.join(Make.HEAD, Make.raw(false, before), first, single), due);
+        }
     }
 
     private static void oneSymbol() {

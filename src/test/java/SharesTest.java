@@ -394,14 +394,23 @@ public final class SharesTest {
         CHECK.sentence("2 a SHARE TOLD (one behind another)");
         byte[] before = Inside.differing(600);
         byte[] literals = Inside.differing(30);
-        Coder wide = new Coder(6, 10, 10, 10, 10, 10, 10, 3, -1);
-        Coder small = new Coder(5, 3, 28, -1);
+        Coder many = new Coder(6, 10, 10, 10, 10, 10, 10, 3, -1);
+        Coder few = new Coder(5, 0, 0, 20, 12);
         for (int kind = 0; kind < 3; kind++) {
-            byte[] first = told(false, kind, wide, literals);
-            byte[] second = told(true, kind, small, literals);
-            byte[] due = Inside.model(Inside.model(before, literals, meant(kind, 2, 0), meant(kind, 2, 2)),
-                literals, meant(kind, 2, 2), meant(kind, 2, 2));
-            CHECK.dueContent("kind " + kind, Make.join(Make.HEAD, Make.raw(false, before), first, second), due);
+            byte[] first = told(false, kind, many, literals);
+            byte[] due = Inside.model(before, literals, meant(kind, 2, 0), meant(kind, 2, 2));
+            for (int place = 0; place < 32; place++) {
+                int one = few.symbolAt(place);
+                int two = few.symbolAt(few.baseAt(place));
+                List<Long> pairs = new ArrayList<>();
+                few.addFirst(pairs, place);
+                Coder.add(pairs, 0, kind == DISTANCES ? one : 2);
+                few.addStep(pairs, place, few.baseAt(place));
+                Coder.add(pairs, 0, kind == DISTANCES ? two : 2);
+                byte[] second = Make.packed(true, Make.literals(literals), Make.bytes(2), tables(kind, 2, few.told()), Coder.stream(pairs));
+                CHECK.dueContent("place " + place + " of kind " + kind, Make.join(Make.HEAD, Make.raw(false, before), first, second),
+                    Inside.model(due, literals, meant(kind, one, 2), meant(kind, two, one)));
+            }
         }
     }
 
@@ -420,7 +429,8 @@ public final class SharesTest {
         CHECK.sentence("1 a byte, its symbol, in one place that takes no bits (L 0) (behind a SHARE TOLD)");
         byte[] before = Inside.differing(600);
         byte[] literals = Inside.differing(30);
-        Coder share = new Coder(5, 8, 8, 8, 8);
+        // Place 0 takes bits and leads elsewhere, as 7 is no power of two.
+        Coder share = new Coder(5, 7, 9, 8, 8);
         for (int kind = 0; kind < 3; kind++) {
             byte[] first = told(false, kind, share, literals);
             byte[] single = Make.packed(true, Make.literals(literals), Make.bytes(3, Inside.SINGLES, 1, 2, 0),
